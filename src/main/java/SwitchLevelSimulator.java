@@ -211,8 +211,10 @@ public final class SwitchLevelSimulator {
         if (!isWithin(fault, STUCK_OPEN, STUCK_CLOSED) || !isLimit(limit)) {
             return OUT_OF_RANGE;
         }
-        int expected = valueWithoutFault(node, limit);
-        int seen = valueWithFault(transistor, fault, node, limit);
+        trial.copyFrom(circuit);
+        int expected = settledTrialValue(node, limit);
+        trial.copyWithFault(circuit, transistor, fault);
+        int seen = settledTrialValue(node, limit);
         return areOpposite(expected, seen) ? 1 : 0;
     }
 
@@ -223,7 +225,8 @@ public final class SwitchLevelSimulator {
         if (!isLimit(limit)) {
             return OUT_OF_RANGE;
         }
-        int expected = valueWithoutFault(node, limit);
+        trial.copyFrom(circuit);
+        int expected = settledTrialValue(node, limit);
         // Nothing is opposite to X, so the many trials below could find nothing.
         if (expected == X) {
             return 0;
@@ -231,7 +234,8 @@ public final class SwitchLevelSimulator {
         int detected = 0;
         for (int transistor = 0; transistor < circuit.transistorTotal; transistor++) {
             for (int fault = STUCK_OPEN; fault <= STUCK_CLOSED; fault++) {
-                if (areOpposite(expected, valueWithFault(transistor, fault, node, limit))) {
+                trial.copyWithFault(circuit, transistor, fault);
+                if (areOpposite(expected, settledTrialValue(node, limit))) {
                     detected++;
                 }
             }
@@ -288,25 +292,17 @@ public final class SwitchLevelSimulator {
     }
 
     private int settleWithin(Circuit subject, int limit) {
-        for (int steps = 0; steps < limit; steps++) {
-            if (advance(subject) == 0) {
+        for (int steps = 0; steps <= limit; steps++) {
+            steady.find(subject);
+            if (steady.changesOf(subject) == 0) {
                 return steps;
             }
+            // The last round only looks whether the last step has made the circuit stable.
+            if (steps < limit) {
+                steady.putInto(subject);
+            }
         }
-        // The last step may have been the one that made the circuit stable.
-        steady.find(subject);
-        return steady.changesOf(subject) == 0 ? limit : UNSTABLE;
-    }
-
-    private int valueWithoutFault(int node, int limit) {
-        trial.copyFrom(circuit);
-        return settledTrialValue(node, limit);
-    }
-
-    private int valueWithFault(int transistor, int fault, int node, int limit) {
-        trial.copyFrom(circuit);
-        trial.replaceFault(transistor, fault);
-        return settledTrialValue(node, limit);
+        return UNSTABLE;
     }
 
     /** X stands for a trial that does not settle, too, because neither can show a fault. */
@@ -460,6 +456,11 @@ public final class SwitchLevelSimulator {
             return removed;
         }
 
+        void copyWithFault(Circuit source, int transistor, int fault) {
+            copyFrom(source);
+            faults[transistor] = fault;
+        }
+
         void copyFrom(Circuit source) {
             nodeTotal = source.nodeTotal;
             inputNodes = source.inputNodes;
@@ -573,21 +574,22 @@ public final class SwitchLevelSimulator {
             }
         }
 
-        /** The sources, and the nodes among those allowed that a way through allowed ones joins to them. */
+        /** The sources, and the allowed nodes that a way through allowed nodes joins to them. */
         private static int reach(int sources, int[] neighbors, int allowed) {
-            int reached = sources;
+            // Most calls find nothing left, because a stronger level has settled every node.
+            int left = allowed & ~sources;
             int waiting = sources;
-            for (int visits = 0; visits < MOST_NODES && waiting != 0; visits++) {
+            for (int visits = 0; visits < MOST_NODES && left != 0; visits++) {
                 int node = Integer.numberOfTrailingZeros(waiting);
+                // Without a node that waits, this is the number of bits in an int.
                 if (node >= neighbors.length) {
                     break;
                 }
-                waiting &= waiting - 1;
-                int joined = neighbors[node] & allowed & ~reached;
-                reached |= joined;
-                waiting |= joined;
+                int joined = neighbors[node] & left;
+                left &= ~joined;
+                waiting = (waiting & (waiting - 1)) | joined;
             }
-            return reached;
+            return sources | (allowed & ~left);
         }
 
         private static int levelIn(int[] levels, int node) {
