@@ -62,4 +62,54 @@ final class Circuits {
         }
         return s;
     }
+
+    /**
+     * Rails, and from node 2 on one NOR gate a row: its inputs are the gates in the set, and its value at
+     * the start is the bit in start. A transistor that is always CLOSED pulls up, stronger ones pull down.
+     */
+    static SwitchLevelSimulator norGates(int[] inputs, int start) {
+        SwitchLevelSimulator s = rails();
+        for (int gate = 0; gate < inputs.length; gate++) {
+            storage(s, 1, start >> gate & 1);
+        }
+        for (int gate = 0; gate < inputs.length; gate++) {
+            addNor(s, inputs[gate], 2 + gate);
+        }
+        return s;
+    }
+
+    private static void addNor(SwitchLevelSimulator s, int inputs, int out) {
+        wire(s, 1, out, POWER);
+        for (int gate = 0; gate < 24; gate++) {
+            if ((inputs >> gate & 1) != 0) {
+                s.addTransistor(N, 2, 2 + gate, out, GROUND);
+            }
+        }
+    }
+
+    /** Twenty nodes and 37 transistors that come to rest with the 101st step. */
+    static SwitchLevelSimulator restingAfter101Steps() {
+        int[] inputs = new int[18];
+        for (int gate = 0; gate < 18; gate++) {
+            inputs[gate] = 1 << (gate + 17) % 18;
+        }
+        inputs[14] |= 1 << 9;
+        return norGates(inputs, 0x4dc4);
+    }
+
+    /** Gates that are as now again after 25 steps, beside a ring of four that is so after four. */
+    static SwitchLevelSimulator swingingBy100Steps() {
+        int[] inputs = {0x1001, 0x801, 0x402, 0x4, 0x8, 0x10, 0x20, 0x40, 0x80, 0x100, 0x200, 0x400, 0x840,
+            1 << 16, 1 << 13, 1 << 14, 1 << 15};
+        return norGates(inputs, 0xd85 | 0b0010 << 13);
+    }
+
+    /** A ring of 5 and a ring of 11 inverters, as now again after 10 and after 22 steps. */
+    static SwitchLevelSimulator swingingBy110Steps() {
+        int[] inputs = new int[16];
+        for (int gate = 0; gate < 16; gate++) {
+            inputs[gate] = 1 << (gate == 0 ? 4 : gate == 5 ? 15 : gate - 1);
+        }
+        return norGates(inputs, 0b00101 | 0b00101010101 << 5);
+    }
 }

@@ -29,11 +29,12 @@ public final class LiteralModelTest {
         int nodes = random.nextInt(25);
         int transistors = random.nextInt(41);
         boolean gates = random.nextBoolean();
-        due("addInput", s.addInput(), m.addInput());
-        due("addInput", s.addInput(), m.addInput());
-        setValue(0, 0);
-        setValue(1, 1);
-        for (int i = 2; i < nodes; i++) {
+        int rails = random.nextInt(3) > 0 ? 2 : 0;
+        for (int i = 0; i < rails; i++) {
+            due("addInput", s.addInput(), m.addInput());
+            setValue(i, i);
+        }
+        for (int i = rails; i < nodes; i++) {
             addNode();
             setValue(i, random.nextInt(3));
         }
@@ -101,7 +102,7 @@ public final class LiteralModelTest {
                 m.addTransistor(type, strength, gate, one, other));
     }
 
-    /** Both transistors of an inverter, so that rings and latches come about. */
+    /** Both transistors of an inverter if nodes 0 and 1 are rails, so that rings and latches come about. */
     private void addGate() {
         int in = node();
         int out = node();
