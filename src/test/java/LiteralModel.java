@@ -152,7 +152,14 @@ final class LiteralModel {
         return gate == 0 ? 1 : 0;
     }
 
+    private int[] switchStates() {
+        int[] states = new int[transistors.size()];
+        for (int i = 0; i < states.length; i++) states[i] = switchState(i);
+        return states;
+    }
+
     private int[] definiteStrengths() {
+        int[] states = switchStates();
         int[] q = new int[nodes.size()];
         for (int n = 0; n < q.length; n++) q[n] = nodes.get(n).input ? 7 : 0;
         while (true) {
@@ -161,8 +168,9 @@ final class LiteralModel {
                 if (nodes.get(n).input) continue;
                 int most = nodes.get(n).size;
                 for (int i = 0; i < transistors.size(); i++) {
+                    if (states[i] != 1) continue;
                     Transistor t = transistors.get(i);
-                    if (t.one != n && t.other != n || switchState(i) != 1) continue;
+                    if (t.one != n && t.other != n) continue;
                     int m = t.one == n ? t.other : t.one;
                     most = Math.max(most, Math.min(t.strength + 3, q[m]));
                 }
@@ -175,6 +183,7 @@ final class LiteralModel {
 
     /** The up strengths if the opposite value is 0, the down strengths if it is 1. */
     private int[] strengthsAgainst(int opposite) {
+        int[] states = switchStates();
         int[] q = definiteStrengths();
         int[] u = new int[nodes.size()];
         for (int n = 0; n < u.length; n++) u[n] = nodes.get(n).input && nodes.get(n).value != opposite ? 7 : 0;
@@ -184,8 +193,9 @@ final class LiteralModel {
                 if (nodes.get(n).input) continue;
                 int a = nodes.get(n).value != opposite ? nodes.get(n).size : 0;
                 for (int i = 0; i < transistors.size(); i++) {
+                    if (states[i] == 0) continue;
                     Transistor t = transistors.get(i);
-                    if (t.one != n && t.other != n || switchState(i) == 0) continue;
+                    if (t.one != n && t.other != n) continue;
                     int m = t.one == n ? t.other : t.one;
                     a = Math.max(a, Math.min(t.strength + 3, u[m]));
                 }

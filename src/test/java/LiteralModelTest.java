@@ -7,14 +7,11 @@ public final class LiteralModelTest {
     private static final Check CHECK = new Check();
 
     private final Random random;
-    private final String run;
-    private final SwitchLevelSimulator s = new SwitchLevelSimulator();
-    private final LiteralModel m = new LiteralModel();
-    private int calls = 0;
+    private final SideBySide both;
 
     private LiteralModelTest(int seed) {
         random = new Random(seed);
-        run = "run " + seed + ", call ";
+        both = new SideBySide(CHECK, "run " + seed);
     }
 
     public static void main(String[] args) {
@@ -31,7 +28,7 @@ public final class LiteralModelTest {
         boolean gates = random.nextBoolean();
         int rails = random.nextInt(3) > 0 ? 2 : 0;
         for (int i = 0; i < rails; i++) {
-            due("addInput", s.addInput(), m.addInput());
+            both.addInput();
             setValue(i, i);
         }
         for (int i = rails; i < nodes; i++) {
@@ -45,24 +42,19 @@ public final class LiteralModelTest {
                 addTransistor(node(), node(), node());
             }
         }
-        while (calls < CALLS_OF_AN_OBJECT - 20) {
+        while (both.calls() < CALLS_OF_AN_OBJECT - 20) {
             anyCall();
         }
         lookAround();
     }
 
-    private void due(String call, int got, int want) {
-        calls++;
-        CHECK.due(run + calls + ": " + call, got, want);
-    }
-
     /** Mostly a node that exists, seldom one that does not. */
     private int node() {
-        return random.nextInt(60) == 0 ? far() : random.nextInt(Math.max(1, m.nodeCount()));
+        return random.nextInt(60) == 0 ? far() : random.nextInt(Math.max(1, both.nodes()));
     }
 
     private int transistor() {
-        return random.nextInt(60) == 0 ? far() : random.nextInt(Math.max(1, m.transistorCount()));
+        return random.nextInt(60) == 0 ? far() : random.nextInt(Math.max(1, both.transistors()));
     }
 
     private int upTo(int most) {
@@ -88,32 +80,30 @@ public final class LiteralModelTest {
 
     private void addNode() {
         if (random.nextInt(4) == 0) {
-            due("addInput", s.addInput(), m.addInput());
+            both.addInput();
         } else {
-            int size = upTo(3);
-            due("addStorage " + size, s.addStorage(size), m.addStorage(size));
+            both.addStorage(upTo(3));
         }
     }
 
     private void addTransistor(int gate, int one, int other) {
         int type = upTo(2);
         int strength = random.nextInt(60) == 0 ? far() : 1 + random.nextInt(3);
-        due("addTransistor", s.addTransistor(type, strength, gate, one, other),
-                m.addTransistor(type, strength, gate, one, other));
+        both.addTransistor(type, strength, gate, one, other);
     }
 
-    /** Both transistors of an inverter if nodes 0 and 1 are rails, so that rings and latches come about. */
+    /** Both transistors of an inverter if nodes 0 and 1 are rails. */
     private void addGate() {
         int in = node();
         int out = node();
         int strength = 1 + random.nextInt(3);
-        due("addTransistor", s.addTransistor(0, strength, in, out, 0), m.addTransistor(0, strength, in, out, 0));
-        due("addTransistor", s.addTransistor(1, strength, in, out, 1), m.addTransistor(1, strength, in, out, 1));
+        both.addTransistor(0, strength, in, out, 0);
+        both.addTransistor(1, strength, in, out, 1);
     }
 
     private void setValue(int node, int value) {
-        due("setInput " + node + " " + value, s.setInput(node, value), m.setInput(node, value));
-        due("setCharge " + node + " " + value, s.setCharge(node, value), m.setCharge(node, value));
+        both.setInput(node, value);
+        both.setCharge(node, value);
     }
 
     private void anyCall() {
@@ -156,44 +146,42 @@ public final class LiteralModelTest {
         int limit = limit();
         switch (random.nextInt(5)) {
             case 0:
-                due("settle " + limit, s.settle(limit), m.settle(limit));
+                both.settle(limit);
                 break;
             case 1:
-                due("period " + limit, s.period(limit), m.period(limit));
+                both.period(limit);
                 break;
             case 2:
-                due("active", s.active(), m.active());
+                both.active();
                 break;
             default:
-                due("step", s.step(), m.step());
+                both.step();
         }
         for (int value = 0; value <= 2; value++) {
-            due("nodesWith " + value, s.nodesWith(value), m.nodesWith(value));
+            both.nodesWith(value);
         }
     }
 
     private void fault() {
         if (random.nextInt(12) == 0) {
-            due("clearFaults", s.clearFaults(), m.clearFaults());
+            both.clearFaults();
             return;
         }
-        int transistor = transistor();
-        int fault = upTo(2);
-        due("setFault " + transistor + " " + fault, s.setFault(transistor, fault), m.setFault(transistor, fault));
+        both.setFault(transistor(), upTo(2));
     }
 
     private void saving() {
         int slot = upTo(1);
         switch (random.nextInt(5)) {
             case 0:
-                due("forget", s.forget(), m.forget());
+                both.forget();
                 break;
             case 1:
             case 2:
-                due("save " + slot, s.save(slot), m.save(slot));
+                both.save(slot);
                 break;
             default:
-                due("restore " + slot, s.restore(slot), m.restore(slot));
+                both.restore(slot);
         }
     }
 
@@ -201,48 +189,43 @@ public final class LiteralModelTest {
         int node = node();
         int limit = limit();
         if (random.nextInt(8) == 0) {
-            due("detectedFaults " + node + " " + limit, s.detectedFaults(node, limit), m.detectedFaults(node, limit));
+            both.detectedFaults(node, limit);
             return;
         }
-        int transistor = transistor();
-        int fault = upTo(2);
-        due("detects " + transistor + " " + fault + " " + node + " " + limit,
-                s.detects(transistor, fault, node, limit), m.detects(transistor, fault, node, limit));
+        both.detects(transistor(), upTo(2), node, limit);
     }
 
     /** One question, so that no answer can lean on what another one has worked out. */
     private void askNode(int node) {
         switch (random.nextInt(7)) {
             case 0:
-                due("value " + node, s.value(node), m.value(node));
+                both.value(node);
                 break;
             case 1:
-                due("definiteStrength " + node, s.definiteStrength(node), m.definiteStrength(node));
+                both.definiteStrength(node);
                 break;
             case 2:
-                due("upStrength " + node, s.upStrength(node), m.upStrength(node));
+                both.upStrength(node);
                 break;
             case 3:
-                due("downStrength " + node, s.downStrength(node), m.downStrength(node));
+                both.downStrength(node);
                 break;
             case 4:
-                due("steadyValue " + node, s.steadyValue(node), m.steadyValue(node));
+                both.steadyValue(node);
                 break;
             case 5:
-                due("vicinity " + node, s.vicinity(node), m.vicinity(node));
+                both.vicinity(node);
                 break;
             default:
-                int transistor = transistor();
-                due("switchState " + transistor, s.switchState(transistor), m.switchState(transistor));
+                both.switchState(transistor());
         }
     }
 
     private void lookAround() {
-        due("nodeCount", s.nodeCount(), m.nodeCount());
-        due("transistorCount", s.transistorCount(), m.transistorCount());
-        due("inputs", s.inputs(), m.inputs());
-        due("active", s.active(), m.active());
-        int value = upTo(2);
-        due("nodesWith " + value, s.nodesWith(value), m.nodesWith(value));
+        both.nodeCount();
+        both.transistorCount();
+        both.inputs();
+        both.active();
+        both.nodesWith(upTo(2));
     }
 }
